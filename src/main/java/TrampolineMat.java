@@ -51,18 +51,15 @@ public final class TrampolineMat {
     private int refusedActs = 0;
     private int refusedPlaces = 0;
     private Garden garden = new Garden();
-    private Garden spare = new Garden();
     private final Scene now = new Scene();
     private final Scene pictured = new Scene();
     private boolean hasPicture = false;
-    private final Teller teller = new Teller(spare);
-    private final Play play = new Play(garden);
-    private final Wander wander = new Wander(garden);
+    private final Teller teller = new Teller();
+    private final Play play = new Play();
+    private final Wander wander = new Wander();
     private final Egg braced = new Egg();
 
     public TrampolineMat() {
-        garden.clear();
-        now.begin(garden);
     }
 
     // ---- the text
@@ -91,18 +88,18 @@ public final class TrampolineMat {
     public int garden(int n) throws IllegalArgumentException {
         demand(n >= 0 && n <= tapeLength);
         tapeLength = 0;
-        int wrong = teller.tell(tape, n, spare);
+        int wrong = teller.tell(tape, n);
         if (wrong != 0) {
             faultPlace = teller.wrongAt;
             refusedTexts++;
             return wrong;
         }
         faultPlace = NONE;
-        // The garden that stood is the spare one from now on, so that no text makes objects.
-        Garden old = garden;
-        garden = spare;
-        spare = old;
-        now.begin(garden);
+        // The teller gets the garden that stood for its next text, so that no text makes objects.
+        Garden told = teller.garden;
+        teller.garden = garden;
+        garden = told;
+        now.begin(told);
         hasPicture = false;
         return 0;
     }
@@ -219,7 +216,7 @@ public final class TrampolineMat {
     public int film(int jumper, int tick) throws NoSuchElementException {
         need(isJumper(jumper) && isTick(tick));
         prepare();
-        play.go(tick + 1);
+        play.go(0, tick + 1);
         return play.flyer(jumper).heightIn(tick);
     }
 
@@ -255,7 +252,7 @@ public final class TrampolineMat {
         int many = 0;
         int first = NONE;
         for (int tick = 0; tick < now.ticks; tick++) {
-            play.advance(tick);
+            play.go(tick, tick + 1);
             if (play.flyer(jumper).heightIn(tick) >= height) {
                 first = many == 0 ? tick : first;
                 many++;
@@ -273,7 +270,7 @@ public final class TrampolineMat {
         for (int start = 0; start < 40; start++) {
             prepare();
             play.flyer(jumper).startIn(start);
-            play.go(now.ticks);
+            play.go(0, now.ticks);
             int worth = worthOf(play.flyer(jumper), what);
             if (start == 0 || worth > bestWorth) {
                 best = start;
@@ -310,7 +307,7 @@ public final class TrampolineMat {
         for (int drop = 0; drop <= MOST_TOLD_HEIGHT; drop++) {
             prepare();
             play.flyer(jumper).dropFrom(drop);
-            play.go(now.ticks);
+            play.go(0, now.ticks);
             if (play.hurtTick != NONE) {
                 return drop;
             }
@@ -337,7 +334,7 @@ public final class TrampolineMat {
     private boolean hurtAmong(int bits) {
         prepare();
         play.keepOnly(bits);
-        play.go(now.ticks);
+        play.go(0, now.ticks);
         return play.hurtTick != NONE;
     }
 
@@ -371,7 +368,7 @@ public final class TrampolineMat {
         int with = play.flyer(jumper).top;
         prepare();
         play.keepOnly(~(1 << other));
-        play.go(now.ticks);
+        play.go(0, now.ticks);
         return play.flyer(jumper).top - with;
     }
 
@@ -388,7 +385,7 @@ public final class TrampolineMat {
                 prepare();
                 play.flyer(one).startIn(start);
                 play.flyer(two).startIn(start2);
-                play.go(tick + 1);
+                play.go(0, tick + 1);
                 if (play.flyer(one).heightIn(tick) == high && play.flyer(two).heightIn(tick) == high2) {
                     many++;
                 }
@@ -423,7 +420,7 @@ public final class TrampolineMat {
     private void playBy(int rule) {
         prepare();
         play.rule = rule;
-        play.go(now.ticks);
+        play.go(0, now.ticks);
     }
 
     public int afternoons(int seed, int many, int what) throws NoSuchElementException, IllegalArgumentException {
@@ -439,7 +436,7 @@ public final class TrampolineMat {
                 drawn = drawn * 1103515245 + 12345;
                 play.flyer(k).startIn((drawn >> 16 & 0x7fff) % 40);
             }
-            play.go(now.ticks);
+            play.go(0, now.ticks);
             hurts += play.hurtsOfAll();
             most = Math.max(most, play.funOfAll());
             unhurt += play.hurtTick == NONE ? 1 : 0;
@@ -620,7 +617,7 @@ public final class TrampolineMat {
 
     private void playAll() {
         prepare();
-        play.go(now.ticks);
+        play.go(0, now.ticks);
     }
 
     /** What a text tells. */
@@ -638,6 +635,10 @@ public final class TrampolineMat {
         final int[] pushes = new int[MOST_PUSHES];
         int pushCount;
         final Rules rules = new Rules();
+
+        Garden() {
+            clear();
+        }
 
         void clear() {
             sinks = 3;
@@ -682,10 +683,12 @@ public final class TrampolineMat {
 
     /** What acts and places change, and what an image keeps. */
     static final class Scene {
+        private static final int TICKS_AT_FIRST = 200;
+
         final int[] jumpers = new int[MOST_JUMPERS * OF_A_JUMPER];
         int jumperCount;
-        int rule;
-        int ticks;
+        int rule = NONE;
+        int ticks = TICKS_AT_FIRST;
         final int[] actKinds = new int[MOST_ACTS];
         final int[] actWhos = new int[MOST_ACTS];
         final int[] actWeres = new int[MOST_ACTS];
@@ -697,7 +700,7 @@ public final class TrampolineMat {
             System.arraycopy(garden.jumpers, 0, jumpers, 0, jumpers.length);
             jumperCount = garden.jumperCount;
             rule = NONE;
-            ticks = 200;
+            ticks = TICKS_AT_FIRST;
             actCount = 0;
             placeCount = 0;
         }
@@ -820,10 +823,12 @@ public final class TrampolineMat {
         void next() {
             start = behindBlanks();
             end = start;
-            char sign = signAt(start);
-            if (start >= length) {
+            if (start < 0 || start >= length || start >= text.length) {
                 kind = END;
-            } else if (sign >= 'a' && sign <= 'z') {
+                return;
+            }
+            char sign = (char) (text[start] & 255);
+            if (sign >= 'a' && sign <= 'z') {
                 kind = WORD;
                 end = behindRow('a', 'z');
             } else if (sign >= '0' && sign <= '9') {
@@ -836,14 +841,9 @@ public final class TrampolineMat {
             }
         }
 
-        private char signAt(int at) {
-            return at >= 0 && at < length && at < text.length ? (char) (text[at] & 255) : 0;
-        }
-
         private int behindBlanks() {
-            for (int at = end; at < length; at++) {
-                char sign = signAt(at);
-                if (sign != 32 && sign != 10) {
+            for (int at = end; at >= 0 && at < length && at < text.length; at++) {
+                if (text[at] != 32 && text[at] != 10) {
                     return at;
                 }
             }
@@ -851,9 +851,8 @@ public final class TrampolineMat {
         }
 
         private int behindRow(char least, char most) {
-            for (int at = start; at < length; at++) {
-                char sign = signAt(at);
-                if (sign < least || sign > most) {
+            for (int at = start; at >= 0 && at < length && at < text.length; at++) {
+                if (text[at] < least || text[at] > most) {
                     return at;
                 }
             }
@@ -865,8 +864,8 @@ public final class TrampolineMat {
                 return TOO_LONG;
             }
             int number = 0;
-            for (int at = start; at < end; at++) {
-                number = number * 10 + signAt(at) - '0';
+            for (int at = start; at >= 0 && at < end && at < text.length; at++) {
+                number = number * 10 + text[at] - '0';
             }
             return number;
         }
@@ -876,7 +875,8 @@ public final class TrampolineMat {
                 return false;
             }
             for (int i = 0; i < word.length(); i++) {
-                if (signAt(start + i) != word.charAt(i)) {
+                int at = start + i;
+                if (at < 0 || at >= text.length || text[at] != word.charAt(i)) {
                     return false;
                 }
             }
@@ -895,18 +895,13 @@ public final class TrampolineMat {
         private static final int SEEN_EGG = 16;
 
         private final Reader reader = new Reader();
-        private Garden garden;
+        Garden garden = new Garden();
         private int seen;
         private int told;
         private int wrong;
         int wrongAt;
 
-        Teller(Garden garden) {
-            this.garden = garden;
-        }
-
-        int tell(byte[] text, int n, Garden into) {
-            garden = into;
+        int tell(byte[] text, int n) {
             garden.clear();
             seen = 0;
             wrong = 0;
@@ -1302,40 +1297,20 @@ public final class TrampolineMat {
             }
             int top = 0;
             for (int i = rule == 0 ? 0 : ends[rule - 1]; i < ends[rule] && i < code.length; i++) {
-                top = work(code[i], top, values);
+                int cell = code[i];
+                int which = FIRST_VALUE - cell;
+                if (cell >= 0 || which >= 0) {
+                    int operand = cell >= 0 ? cell : which < values.length ? values[which] : 0;
+                    top = Math.min(top + 1, waiting.length);
+                    waiting[top - 1] = operand;
+                } else if (cell == NOT && top >= 1) {
+                    waiting[top - 1] = waiting[top - 1] == 0 ? 1 : 0;
+                } else if (top >= 2) {
+                    waiting[top - 2] = join(cell, waiting[top - 2], waiting[top - 1]);
+                    top--;
+                }
             }
-            return top > 0 && top <= waiting.length && waiting[top - 1] != 0;
-        }
-
-        private int work(int cell, int top, int[] values) {
-            if (cell >= 0) {
-                return push(cell, top);
-            }
-            int which = FIRST_VALUE - cell;
-            if (which >= 0) {
-                return push(which < values.length ? values[which] : 0, top);
-            }
-            if (top < 1 || top > waiting.length) {
-                return top;
-            }
-            int right = waiting[top - 1];
-            if (cell == NOT) {
-                waiting[top - 1] = right == 0 ? 1 : 0;
-                return top;
-            }
-            if (top < 2) {
-                return top;
-            }
-            waiting[top - 2] = join(cell, waiting[top - 2], right);
-            return top - 1;
-        }
-
-        private int push(int v, int top) {
-            if (top < 0 || top >= waiting.length) {
-                return top;
-            }
-            waiting[top] = v;
-            return top + 1;
+            return top >= 1 && waiting[top - 1] != 0;
         }
 
         private static int join(int operation, int left, int right) {
@@ -1513,12 +1488,12 @@ public final class TrampolineMat {
         private final Flyer[] flyers = new Flyer[MOST_JUMPERS];
         private final int[] values = new int[Rules.VALUES];
         final Landings landings = new Landings();
-        private Garden garden;
+        private Garden garden = new Garden();
         int rule;
         private int due;
         private boolean still;
         private int began;
-        private int taker;
+        private Flyer taker;
         int stored;
         int storedInAll;
         int jarredInAll;
@@ -1527,11 +1502,11 @@ public final class TrampolineMat {
         int hurtTick;
         int hurtBits;
 
-        Play(Garden garden) {
-            this.garden = garden;
+        Play() {
             for (int i = 0; i < flyers.length; i++) {
                 flyers[i] = new Flyer(i);
             }
+            taker = flyers[0];
         }
 
         Flyer flyer(int i) {
@@ -1548,7 +1523,7 @@ public final class TrampolineMat {
             due = 0;
             still = true;
             began = 0;
-            taker = 0;
+            taker = flyers[0];
             stored = 0;
             storedInAll = 0;
             jarredInAll = 0;
@@ -1566,21 +1541,16 @@ public final class TrampolineMat {
             }
         }
 
-        void go(int ticks) {
-            for (int tick = 0; tick < ticks; tick++) {
-                advance(tick);
-            }
-        }
-
         // Ticks in which nothing can happen are passed over: some questions play hundreds of runs.
-        void advance(int tick) {
-            if (tick < due) {
-                return;
+        void go(int from, int to) {
+            for (int tick = from; tick < to; tick++) {
+                if (tick >= due) {
+                    landAll(tick);
+                    endRise(tick);
+                    sendOthers(tick);
+                    due = nextDue();
+                }
             }
-            landAll(tick);
-            endRise(tick);
-            sendOthers(tick);
-            due = nextDue();
         }
 
         private int nextDue() {
@@ -1665,15 +1635,15 @@ public final class TrampolineMat {
                 jarredInAll += power;
                 return JARRING;
             }
-            int kind = GAINING;
+            int kind = ALONE;
             if (still) {
-                kind = ALONE;
                 still = false;
                 began = tick;
             } else {
-                flyer(taker).addKind(LOSING);
+                kind = GAINING;
+                taker.addKind(LOSING);
             }
-            taker = flyer.me;
+            taker = flyer;
             stored += power;
             storedInAll += power;
             return kind;
@@ -1683,7 +1653,7 @@ public final class TrampolineMat {
             if (still || tick < riseEnds()) {
                 return;
             }
-            Flyer flyer = flyer(taker);
+            Flyer flyer = taker;
             int had = flyer.weight > 0 ? stored * garden.kept / 100 / flyer.weight : 0;
             int height = Math.min(had + flyer.legs, MOST_HEIGHT);
             stored = 0;
@@ -1769,43 +1739,37 @@ public final class TrampolineMat {
 
         private final long[] ways = new long[PLACES];
         private final long[] nextWays = new long[PLACES];
-        private Garden garden;
         long fallen;
         long whole;
 
-        Wander(Garden garden) {
-            this.garden = garden;
-        }
-
-        void go(Garden told, int place, int height, int corrects, int n) {
-            garden = told;
+        void go(Garden garden, int place, int height, int corrects, int n) {
             Arrays.fill(ways, 0);
             Arrays.fill(nextWays, 0);
             fallen = 0;
             whole = 1;
-            comeTo(place, 1);
+            comeTo(garden, place, 1);
             takeNext();
             for (int i = 0; i < n; i++) {
-                jump(height, corrects);
+                jump(garden, height, corrects);
                 takeNext();
             }
         }
 
-        private void jump(int height, int corrects) {
+        private void jump(Garden garden, int height, int corrects) {
             int weights = garden.slipsLeft + garden.slipsNot + garden.slipsRight;
             fallen *= weights;
             whole *= weights;
             for (int i = 0; i < PLACES; i++) {
                 if (ways[i] != 0) {
                     int target = garden.comesTo(i - FARTHEST, height, corrects);
-                    comeTo(target - 1, ways[i] * garden.slipsLeft);
-                    comeTo(target, ways[i] * garden.slipsNot);
-                    comeTo(target + 1, ways[i] * garden.slipsRight);
+                    comeTo(garden, target - 1, ways[i] * garden.slipsLeft);
+                    comeTo(garden, target, ways[i] * garden.slipsNot);
+                    comeTo(garden, target + 1, ways[i] * garden.slipsRight);
                 }
             }
         }
 
-        private void comeTo(int place, long many) {
+        private void comeTo(Garden garden, int place, long many) {
             int at = place + FARTHEST;
             if (garden.isBeyond(place) || at < 0 || at >= PLACES) {
                 fallen += many;
