@@ -904,8 +904,6 @@ public final class TrampolineMat {
         int tell(byte[] text, int n) {
             garden.clear();
             seen = 0;
-            wrong = 0;
-            wrongAt = NONE;
             reader.begin(text, n);
             for (int i = 0; i <= MOST_BYTES && reader.kind != Reader.END; i++) {
                 if (!tellLine() || !pass(';')) {
@@ -1743,8 +1741,6 @@ public final class TrampolineMat {
         long whole;
 
         void go(Garden garden, int place, int height, int corrects, int n) {
-            Arrays.fill(ways, 0);
-            Arrays.fill(nextWays, 0);
             fallen = 0;
             whole = 1;
             comeTo(garden, place, 1);

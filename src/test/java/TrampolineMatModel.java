@@ -71,7 +71,7 @@ public final class TrampolineMatModel {
         switch (r.nextInt(12)) {
             case 0: return least - 1;
             case 1: return most + 1;
-            case 2: return r.nextInt();
+            case 2: return r.nextInt(3) == 0 ? r.nextInt() : r.nextBoolean() ? Integer.MIN_VALUE : Integer.MAX_VALUE;
             case 3: return least;
             case 4: return most;
             default: return least + r.nextInt(most - least + 1);

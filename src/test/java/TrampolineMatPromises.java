@@ -346,16 +346,16 @@ public final class TrampolineMatPromises {
 
     private static void mixedActs() {
         TrampolineMat x = of("jumper 10 5 0 0 0;jumper 10 5 0 0 0;rule 1;rule 0;");
-        int[][] stood = new int[61][];
-        for (int i = 0; i <= 60; i++) {
+        int[][] stood = new int[64][];
+        for (int i = 0; i <= 63; i++) {
             stood[i] = new int[] {x.jumper(0, 3), x.jumper(0, 4), x.jumper(0, 5), x.jumper(1, 3), x.jumper(1, 4), x.jumper(1, 5), x.count(10), x.count(11)};
-            if (i == 60) continue;
+            if (i == 63) continue;
             if (i % 5 < 3) x.become(i % 2, i % 5, i % 10);
             else if (i % 5 == 3) x.obey(i % 3 - 1);
             else x.last(i + 1);
         }
-        for (int i = 59; i >= 20; i--) {
-            due("mixed undo", x.undo(), i - 20);
+        for (int i = 62; i >= 23; i--) {
+            due("mixed undo", x.undo(), i - 23);
             int[] now = {x.jumper(0, 3), x.jumper(0, 4), x.jumper(0, 5), x.jumper(1, 3), x.jumper(1, 4), x.jumper(1, 5), x.count(10), x.count(11)};
             for (int k = 0; k < now.length; k++) due("mixed undo " + i + " of " + k, now[k], stood[i][k]);
         }
