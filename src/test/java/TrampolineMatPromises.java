@@ -1,15 +1,5 @@
-import java.nio.charset.StandardCharsets;
-import java.util.NoSuchElementException;
-
 /** Promise by promise: ordinary inputs, the edges that the document names, wrong inputs; all answers worked out by hand. */
-public final class TrampolineMatPromises {
-    private static final int NONE = TrampolineMat.NONE;
-    private static int wrong = 0;
-
-    private interface Call {
-        long answer();
-    }
-
+public final class TrampolineMatPromises extends Mats {
     public static void main(String[] args) {
         promises1to4();
         faultsOfTokens();
@@ -40,71 +30,7 @@ public final class TrampolineMatPromises {
         promises35and36();
         promises37and38();
         highest();
-        System.out.println(wrong == 0 ? "all promises are kept" : wrong + " answers are not as promised");
-        if (wrong != 0) System.exit(1);
-    }
-
-    private static void due(String call, long got, long want) {
-        if (got != want) {
-            wrong++;
-            System.out.println(call + " answered " + got + ", due is " + want);
-        }
-    }
-
-    private static void due(String call, boolean got, boolean want) {
-        due(call, got ? 1 : 0, want ? 1 : 0);
-    }
-
-    private static void throwing(String call, Call c, Class<?> want) {
-        try {
-            long got = c.answer();
-            wrong++;
-            System.out.println(call + " answered " + got + ", due is " + want.getSimpleName());
-        } catch (RuntimeException e) {
-            if (e.getClass() != want) {
-                wrong++;
-                System.out.println(call + " threw " + e + ", due is " + want.getSimpleName());
-            }
-        }
-    }
-
-    private static void noSuch(String call, Call c) {
-        throwing(call, c, NoSuchElementException.class);
-    }
-
-    private static void notRight(String call, Call c) {
-        throwing(call, c, IllegalArgumentException.class);
-    }
-
-    private static void feedAll(TrampolineMat x, byte[] text) {
-        for (int at = 0; at < text.length; at += 20) {
-            int[] w = new int[5];
-            for (int i = 0; i < 20; i++) w[i / 4] = w[i / 4] << 8 | (at + i < text.length ? text[at + i] & 255 : 32);
-            x.feed(w[0], w[1], w[2], w[3], w[4]);
-        }
-    }
-
-    private static int tell(TrampolineMat x, String text) {
-        byte[] bytes = text.getBytes(StandardCharsets.ISO_8859_1);
-        feedAll(x, bytes);
-        return x.garden(bytes.length);
-    }
-
-    private static TrampolineMat of(String text) {
-        TrampolineMat x = new TrampolineMat();
-        due("garden of '" + text + "'", tell(x, text), 0);
-        return x;
-    }
-
-    private static void fault(String text, int which, int place) {
-        TrampolineMat x = new TrampolineMat();
-        due("garden of '" + text + "'", tell(x, text), which);
-        due("fault() of '" + text + "'", x.fault(), place);
-        due("count(16) behind '" + text + "'", x.count(16), which == 0 ? 0 : 1);
-    }
-
-    private static String times(String s, int n) {
-        return s.repeat(n);
+        end("all promises are kept");
     }
 
     private static void promises1to4() {
@@ -488,14 +414,6 @@ public final class TrampolineMatPromises {
         TrampolineMat z = of("jumper 10 0 -5 0 10;jumper 10 4 5 2 10;rule height<5;");
         z.obey(0);
         due("the second goes in 8", z.landing(2, 0), 12);
-    }
-
-    private static boolean holds(String expr) {
-        TrampolineMat x = of("jumper 10 0 5 1 20;jumper 30 0 -3 0 0;jumper 9 0 9 50 0;rule " + expr + ";");
-        // The first one lands in 1 and takes 200 by 80 by 100: in 6 he would go up to 16, beside the second on THE MAT.
-        x.obey(0);
-        x.last(7);
-        return x.ran(0, 0) == 1;
     }
 
     private static void valuesOfRules() {
