@@ -25,9 +25,9 @@ class Mats {
         begin("promise " + number, words);
     }
 
-    /** Likewise for what the document says ahead of the promises. */
-    static void part(String part, String words) {
-        begin(part, words);
+    /** Likewise for what the document says ahead of the promises, with the promise by which it is seen. */
+    static void part(int number, String part, String words) {
+        begin("promise " + number + " (" + part + ")", words);
     }
 
     private static void begin(String where, String words) {

@@ -18,6 +18,7 @@ public final class TrampolineMatActEdges extends Mats {
         images();
         fullImages();
         restoresRefused();
+        manyCalls();
         end("the edges of acts, places and images hold");
     }
 
@@ -175,7 +176,7 @@ public final class TrampolineMatActEdges extends Mats {
     }
 
     private static void fortyActs() {
-        part("==== 4", "ACTS (at most 40 are kept, the latest ones)");
+        part(10, "==== 4", "ACTS (at most 40 are kept, the latest ones)");
         for (int many : new int[] {39, 40, 41, 42, 80, 81, 125}) {
             TrampolineMat x = of("jumper 5 5 0 0 0;rule 1;");
             for (int i = 1; i <= many; i++) {
@@ -190,6 +191,7 @@ public final class TrampolineMatActEdges extends Mats {
             due("undo", x.undo(), NONE);
             due("N of the oldest that is kept", x.count(11), many <= 40 ? 200 : many - 40);
         }
+        mixedActs();
         // A full row of all kinds, of which the oldest are gone; then some are taken back and others come.
         TrampolineMat x = of("jumper 5 5 0 0 0;rule 1;");
         for (int i = 0; i < 50; i++) {
@@ -216,8 +218,53 @@ public final class TrampolineMatActEdges extends Mats {
         due("N", x.count(11), 8);
     }
 
+    /** START, DROP, CORRECTS of all four, the RULE in force and N. */
+    private static String allThatActsChange(TrampolineMat x) {
+        StringBuilder b = new StringBuilder();
+        for (int j = 0; j < 4; j++) for (int i = 3; i < 6; i++) b.append(x.jumper(j, i)).append(' ');
+        return b.append(x.count(10)).append(' ').append(x.count(11)).toString();
+    }
+
+    private static void anyAct(TrampolineMat x, int drawn) {
+        int kind = drawn / 7 % 5;
+        if (kind == 3) x.obey(drawn % 3 - 1);
+        else if (kind == 4) x.last(1 + drawn % 600);
+        else x.become(drawn / 64 % 4, kind, drawn % 10);
+    }
+
+    private static void mixedActs() {
+        // All kinds of all four out of step, each taken back one by one, with an image of the fullest in the midst.
+        for (int seed = 1; seed <= 20; seed++) {
+            TrampolineMat x = of(times("jumper 5 5 0 1 2 corrects 3;", 4) + "rule 1;rule 0;");
+            String[] stood = new String[71];
+            int drawn = seed;
+            for (int i = 0; i < 70; i++) {
+                stood[i] = allThatActsChange(x);
+                drawn = (drawn * 1103515245 + 12345) & 0x7fffffff;
+                anyAct(x, drawn >> 8);
+                due("count(13)", x.count(13), Math.min(i + 1, 40));
+            }
+            stood[70] = allThatActsChange(x);
+            x.image();
+            for (int i = 69; i >= 50; i--) x.undo();
+            due("what stood ahead of the 51st", allThatActsChange(x), stood[50]);
+            for (int i = 0; i < 30; i++) {
+                drawn = (drawn * 1103515245 + 12345) & 0x7fffffff;
+                anyAct(x, drawn >> 8);
+            }
+            due("restore()", x.restore(), true);
+            due("what stands", allThatActsChange(x), stood[70]);
+            for (int i = 69; i >= 30; i--) {
+                due("undo()", x.undo(), i - 30);
+                due("what stood ahead of ACT " + i, allThatActsChange(x), stood[i]);
+            }
+            due("undo()", x.undo(), NONE);
+            due("what stands", allThatActsChange(x), stood[30]);
+        }
+    }
+
     private static void actsThatChangeNothing() {
-        part("==== 4", "a JUMPER's START, DROP or CORRECTS becomes another, the RULE in force does, N does. They are UNDONE, the last one first.");
+        part(10, "==== 4", "a JUMPER's START, DROP or CORRECTS becomes another, the RULE in force does, N does. They are UNDONE, the last one first.");
         TrampolineMat x = of("jumper 5 5 0 1 2 corrects 3;");
         due("START becomes what it is", x.become(0, 0, 1), 1);
         due("count(13)", x.count(13), 1);
@@ -251,7 +298,7 @@ public final class TrampolineMatActEdges extends Mats {
         due("the 20th again", x.find(5), 20);
         for (int p : new int[] {-100, -101, 100, 101}) leaves("find(" + p + ")", y -> y.find(p), "-1", 2);
         for (int p : FAR) leaves("find(" + p + ")", y -> y.find(p), "-1", 2);
-        part("==== 4", "FOUND: places (at most 20)");
+        part(25, "==== 4", "FOUND: places (at most 20)");
         TrampolineMat full = new TrampolineMat();
         for (int i = 0; i < 20; i++) full.find(i);
         due("of twenty that go one by one", full.broken(0), 1 << 4);
@@ -372,6 +419,29 @@ public final class TrampolineMatActEdges extends Mats {
             due("its N", x.count(11), i == 0 ? 200 : i);
         }
         due("undo()", x.undo(), NONE);
+    }
+
+    private static void manyCalls() {
+        part(5, "==== 4", "STATUS: how many calls were refused: 0 of TEXTS with a FAULT, 1 of ACTS, 2 of places that are FOUND.");
+        TrampolineMat x = new TrampolineMat();
+        for (int i = 1; i <= 40; i++) {
+            tell(x, "x");
+            x.last(0);
+            x.obey(0);
+            x.find(100);
+            due("count(16)", x.count(16), i);
+            due("count(17)", x.count(17), 2 * i);
+            due("count(18)", x.count(18), i);
+            // What throws is none of these.
+            noSuch("become of nobody", () -> x.become(0, 0, 100));
+            notRight("garden(-1)", () -> x.garden(-1));
+            notRight("broken(61)", () -> x.broken(61));
+        }
+        part(5, "What it is", "An object is used for at most 512 calls after it has been made");
+        TrampolineMat y = new TrampolineMat();
+        for (int i = 1; i <= 510; i++) y.find(-100);
+        due("the 511th call", y.count(18), 510);
+        due("the 512th call", y.find(99), 1);
     }
 
     private static void restoresRefused() {

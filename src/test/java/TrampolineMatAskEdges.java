@@ -69,7 +69,7 @@ public final class TrampolineMatAskEdges extends Mats {
     }
 
     private static void momentEdges() {
-        part(ASK, "of all STARTS 0 to 39 (others' as they are)");
+        part(16, ASK, "of all STARTS 0 to 39 (others' as they are)");
         momentDue("mat 1 20 100;jumper 6 1 0 7 4;jumper 19 5 5 0 1;", 200, 0, 39);
         momentDue("mat 2 20 100;jumper 15 2 0 6 1;jumper 6 2 5 0 4;", 200, 1, 39);
         momentDue("mat 2 20 100;jumper 9 3 0 19 1;jumper 16 3 5 0 0;", 200, 2, 39);
@@ -81,7 +81,7 @@ public final class TrampolineMatAskEdges extends Mats {
         momentDue("mat 2 20 100;jumper 4 2 0 13 7;jumper 18 1 5 0 5;", 55, 0, 0);
         momentDue("mat 2 20 100;jumper 13 4 0 9 17;jumper 2 4 5 0 1;", 76, 1, 0);
         momentDue("mat 3 20 100;jumper 13 1 0 29 4;jumper 13 2 5 0 7;", 200, 2, 0);
-        part(ASK, "of like ones the least START");
+        part(16, ASK, "of like ones the least START");
         momentDue("mat 3 20 100;jumper 5 0 0 5 14;jumper 12 2 5 0 1;", 92, 0, 9);
         momentDue("mat 2 20 100;jumper 10 1 0 30 6;jumper 4 1 5 0 13;", 72, 1, 4);
         momentDue("mat 1 20 100;jumper 17 1 0 2 0;jumper 8 3 5 0 0;", 45, 2, 4);
@@ -132,7 +132,7 @@ public final class TrampolineMatAskEdges extends Mats {
         stepDue(of("jumper 10 0 -5 3 0;jumper 10 0 5 3 0;", 4), 0, 1, 0, 0, 0, 0);
         stepDue(of("jumper 10 0 -5 3 0;jumper 10 0 5 4 0;", 5), 0, 1, 1, 1, 0, NONE);
         stepDue(of("jumper 10 0 -5 0 0;jumper 10 0 5 99 0;", 100), 0, 1, 99, 99, 0, NONE);
-        part(ASK, "into step (-1), if these are less, out of it (1), if more, else 0");
+        part(17, ASK, "into step (-1), if these are less, out of it (1), if more, else 0");
         // 0, 10, 20 and 2, 10, 25.
         TrampolineMat x = of("mat 3 9 100;jumper 10 5 0 0 0;jumper 10 5 5 2 0;", 10);
         stepDue(x, 0, 1, 2, 2, 0, NONE);
@@ -142,11 +142,11 @@ public final class TrampolineMatAskEdges extends Mats {
         stepDue(x, 0, 1, 2, 0, -1, 1);
         x.last(26);
         stepDue(x, 0, 1, 2, 5, 1, NONE);
-        part(ASK, "the k-th of the one and of the other, as far as both go");
+        part(17, ASK, "the k-th of the one and of the other, as far as both go");
         // The first comes every 4 TICKS, the second once.
         TrampolineMat one = of("mat 1 9 10;near 0;jumper 1 1 0 0 0;jumper 1 0 5 1 0;", 60);
         stepDue(one, 0, 1, 1, 1, 0, NONE);
-        part(ASK, "their LANDINGS but EDGED ones");
+        part(17, ASK, "their LANDINGS but EDGED ones");
         // In 24 the first is EDGED; the second comes in 24, and once more in 28.
         TrampolineMat out = of("mat 1 9 100;jumper 10 30 9 0 10;jumper 10 0 0 24 0;", 40);
         due("EDGED in 24", out.landing(1, 0), 24);
@@ -154,10 +154,14 @@ public final class TrampolineMatAskEdges extends Mats {
         TrampolineMat gone = of("mat 1 9 100;jumper 10 30 9 0 10;jumper 10 0 0 0 0;", 60);
         // The second takes 100 by 10: up to 10 in 2, down in 9; the first goes up to 30 in 2, EDGED in 19.
         stepDue(gone, 0, 1, 0, 0, 0, 0);
+        part(17, ASK, "STEP of two: their LANDINGS");
+        TrampolineMat four = of("jumper 10 0 0 3 10;jumper 10 0 9 1 10;jumper 10 0 -9 7 10;jumper 10 0 4 2 10;", 8);
+        int[] starts = {3, 1, 7, 2};
+        for (int i = 0; i < 4; i++) for (int k = i + 1; k < 4; k++) stepDue(four, i, k, Math.abs(starts[i] - starts[k]), Math.abs(starts[i] - starts[k]), 0, NONE);
     }
 
     private static void stepsAgain() {
-        part(ASK, "from which k on they are never apart (none: the last are)");
+        part(17, ASK, "from which k on they are never apart (none: the last are)");
         int[] seen = new int[4];
         for (int drop = 0; drop <= 30; drop++) {
             for (int legs = 1; legs <= 9; legs++) {
@@ -209,7 +213,7 @@ public final class TrampolineMatAskEdges extends Mats {
     }
 
     private static void dangerEdges() {
-        part(ASK, "the least DROP (0 to 60; all else as it is) by which somebody is hurt in the RUN; none.");
+        part(18, ASK, "the least DROP (0 to 60; all else as it is) by which somebody is hurt in the RUN; none.");
         // From 8 up to 60 he comes to 20 in 50, up to 59 to 19; by SINKS 9 no lesser one comes so far by then.
         TrampolineMat most = of("mat 9 19 100;jumper 10 0 8 0 0;", 51);
         due("60 is the last", most.danger(0), 60);
@@ -267,7 +271,7 @@ public final class TrampolineMatAskEdges extends Mats {
         due("1 and 3", four(0, 1, 2, 1).pairs(), 1 << 7);
         due("2 and 3", four(0, 1, 2, 2).pairs(), 1 << 11);
         due("all", four(0, 0, 0, 0).pairs(), 1 << 1 | 1 << 2 | 1 << 3 | 1 << 6 | 1 << 7 | 1 << 11);
-        part(ASK, "two JUMPERS by whom alone (no other one being there) somebody is hurt in the RUN");
+        part(19, ASK, "two JUMPERS by whom alone (no other one being there) somebody is hurt in the RUN");
         // Who goes over the edge by himself does so in each of his PAIRS.
         TrampolineMat out = of("mat 1 9 100;jumper 10 0 -5 0 0;jumper 10 0 9 11 60;jumper 10 0 0 0 0;", 46);
         due("1 hurts himself", out.pairs(), 1 << 1 | 1 << 6);
@@ -290,7 +294,7 @@ public final class TrampolineMatAskEdges extends Mats {
     }
 
     private static void laws() {
-        part(ASK, "the least L (0 to 99) such that somebody is hurt by a PAIR just if their WEIGHTS are L or more apart; none (with fewer than two JUMPERS 0).");
+        part(20, ASK, "the least L (0 to 99) such that somebody is hurt by a PAIR just if their WEIGHTS are L or more apart; none (with fewer than two JUMPERS 0).");
         due("nobody", weighing(0).apart(), 0);
         due("one", weighing(0, 50, 0).apart(), 0);
         due("one who is hurt", of("mat 1 9 100;jumper 10 0 9 0 60;").apart(), 0);
@@ -314,7 +318,7 @@ public final class TrampolineMatAskEdges extends Mats {
     }
 
     private static void thirds() {
-        promise(21, "A THIRD: of one, without another.");
+        part(21, ASK, "by how much more one's greatest height would be without another JUMPER (below 0: less)");
         // The second takes what both store: 15 up, by himself 10; the first goes up to 10 by himself, but to nothing as LOSING.
         TrampolineMat x = of("mat 3 9 100;jumper 10 0 0 5 10;jumper 20 0 5 5 10;", 20);
         due("without(0, 1)", x.without(0, 1), 10);
@@ -326,6 +330,10 @@ public final class TrampolineMatAskEdges extends Mats {
         due("30 less 10", three.without(2, 1), -10);
         due("still LOSING", three.without(0, 1), 0);
         due("then THE TAKER of 20", three.without(1, 2), 20);
+        promise(21, "A THIRD: of one, without another.");
+        due("one comes in no RUN so short", of("jumper 10 0 0 5 10;jumper 10 0 5 5 10;", 5).without(0, 1), 0);
+        due("THE MAT has no time to rise", of("mat 9 9 100;jumper 10 0 0 0 10;jumper 10 0 5 0 10;", 18).without(1, 0), 0);
+        due("it has", of("mat 9 9 100;jumper 10 0 0 0 10;jumper 10 0 5 0 10;", 19).without(1, 0), -10);
         promise(21, "IllegalArgumentException (behind NoSuchElementException): both are one.");
         for (int j = 0; j < 3; j++) {
             int both = j;
@@ -350,7 +358,7 @@ public final class TrampolineMatAskEdges extends Mats {
     }
 
     private static void fallsEdges() {
-        part(MORE, "who is beyond EDGE has fallen, and jumps no more");
+        part(22, MORE, "who is beyond EDGE has fallen, and jumps no more");
         TrampolineMat x = of("mat 3 3 100;slips 1 2 3;");
         for (int n = 0; n <= 3; n++) fallsDue(x, 0, 0, 0, n, 0, 1);
         // In four jumps from 0 only by four to the one side.
@@ -373,7 +381,7 @@ public final class TrampolineMatAskEdges extends Mats {
     }
 
     private static void fallsParts() {
-        part(MORE, "as a fraction in lowest terms");
+        part(22, MORE, "as a fraction in lowest terms");
         TrampolineMat thirds = of("mat 3 3 100;slips 9 9 9;");
         fallsDue(thirds, 3, 0, 0, 1, 1, 3);
         fallsDue(thirds, 0, 0, 0, 0, 0, 1);
@@ -391,6 +399,7 @@ public final class TrampolineMatAskEdges extends Mats {
         TrampolineMat all = of("mat 3 20 100;slips 9 8 9;");
         due("26 to the 12th", all.wanders(0, 0, 0, 12, 12, 1), 95428956661682176L);
         due("9 to the 12th", all.wanders(0, 0, 0, 12, 12, 0), 282429536481L);
+        part(22, MORE, "TO WANDER by n jumps (0 to 12), all up to a height (0 to 60), from a PLACE, alone, by SLIPS");
         // n, the height, PLACE and CORRECTS up to their bounds.
         for (int height : new int[] {0, 60}) for (int corrects : new int[] {0, 9}) for (int n : new int[] {0, 12}) for (int place : new int[] {-20, 20}) {
             long lower = most.falls(place, height, corrects, n, 1);
@@ -439,7 +448,7 @@ public final class TrampolineMatAskEdges extends Mats {
     }
 
     private static void corrects() {
-        part(MORE, "TO CORRECT: the least CORRECTS (0 to 9) by which falling is least likely.");
+        part(24, MORE, "TO CORRECT: the least CORRECTS (0 to 9) by which falling is least likely.");
         TrampolineMat x = of("mat 3 20 80;");
         // Up to 60 from 11 it is 27, from 12 it is 30: 7 and 10 beyond EDGE.
         due("7", x.correct(11, 60, 1), 7);
@@ -520,7 +529,7 @@ public final class TrampolineMatAskEdges extends Mats {
     }
 
     private static void brokens() {
-        part(MORE, "which BROKEN (bits: 1 shifted by 3 and BROKEN) fit, each place coming of the one ahead");
+        part(27, MORE, "which BROKEN (bits: 1 shifted by 3 and BROKEN) fit, each place coming of the one ahead");
         due("no place", fitting(0), 127);
         due("one place", fitting(60, 99), 127);
         for (int b = -4; b <= 4; b++) {
@@ -554,7 +563,7 @@ public final class TrampolineMatAskEdges extends Mats {
     }
 
     private static void secondEdges() {
-        part(MORE, "all STARTS of the two (0 to 23 each, others' as they are) by which they were: how many; in how many of these the first one's START is greater");
+        part(28, MORE, "all STARTS of the two (0 to 23 each, others' as they are) by which they were: how many; in how many of these the first one's START is greater");
         TrampolineMat x = of("jumper 10 0 -5 50 0;jumper 10 0 5 50 0;jumper 10 0 0 0 7;");
         due("all of them, in TICK 0", x.second(0, 1, 0, 0, 0, 0), 576);
         due("the first later", x.second(0, 1, 0, 0, 0, 1), 276);
@@ -659,7 +668,7 @@ public final class TrampolineMatAskEdges extends Mats {
     }
 
     private static void bests() {
-        part(MORE, "THE BEST: the fewest hurts, of like ones the most FUN, then none ahead of RULES in their order.");
+        part(30, MORE, "THE BEST: the fewest hurts, of like ones the most FUN, then none ahead of RULES in their order.");
         // Alone: up to 10 in 6, down in 13 (0 hurts), or over the edge from 9.
         String safe = "mat 3 9 100;jumper 10 0 0 0 10;";
         String edge = "mat 3 9 100;jumper 10 0 9 0 10;";
@@ -697,7 +706,7 @@ public final class TrampolineMatAskEdges extends Mats {
     }
 
     private static void eggs() {
-        part(MORE, "as a fraction in lowest terms (0 by 1 with fewer than two PUSHES); the least such m");
+        part(31, MORE, "as a fraction in lowest terms (0 by 1 with fewer than two PUSHES); the least such m");
         eggDue("", 0, 1, 0);
         eggDue("1", 0, 1, 0);
         eggDue("99", 0, 1, 0);
@@ -707,7 +716,7 @@ public final class TrampolineMatAskEdges extends Mats {
         eggDue("1 99", 99, 100, 2);
         eggDue("99 1", 99, 100, 2);
         eggDue("98 99", 9702, 197, 2);
-        part(MORE, "of the m greatest PUSHES, m from 2 on, m less 1 by the sum of 1 by each of these: the greatest of these");
+        part(31, MORE, "of the m greatest PUSHES, m from 2 on, m less 1 by the sum of 1 by each of these: the greatest of these");
         // 4 and 4 give 2: one of 2 gives as much (m 2), one of 3 more, one of 1 less.
         eggDue("4 4 2", 2, 1, 2);
         eggDue("2 4 4", 2, 1, 2);
@@ -749,7 +758,7 @@ public final class TrampolineMatAskEdges extends Mats {
     }
 
     private static void draws() {
-        part(MORE, "A seed becomes itself times 1103515245 and 12345 (an int that wraps); a DRAW of n is its bits 16 to 30 MOD n then.");
+        part(32, MORE, "A seed becomes itself times 1103515245 and 12345 (an int that wraps); a DRAW of n is its bits 16 to 30 MOD n then.");
         for (String text : BUSY) {
             for (int seed : new int[] {0, 1, -1, 2, 12345, 1103515245, Integer.MIN_VALUE, Integer.MAX_VALUE, -1103515245}) {
                 int[] want = afternoonsByActs(text, seed, 5);
@@ -757,7 +766,18 @@ public final class TrampolineMatAskEdges extends Mats {
                 for (int what = 0; what < 3; what++) due("afternoons(" + seed + ", 5, " + what + ")", x.afternoons(seed, 5, what), want[what]);
             }
         }
-        part(MORE, "how often somebody was hurt, all together; the most heights together in one; in how many nobody was");
+        part(32, MORE, "in each every JUMPER's START is a DRAW of 40, in their order");
+        // The draws of seed 1 are 16838, 5758, 10113, 17515: of 40 both come in 38, then in 33 and 35, at one place.
+        TrampolineMat two = of("mat 3 9 100;jumper 10 0 0 0 10;jumper 10 0 0 0 10;", 38);
+        due("nobody in the first by N 38", two.afternoons(1, 1, 2), 1);
+        due("in the second somebody", two.afternoons(1, 2, 2), 1);
+        two.last(39);
+        due("both in the first by N 39", two.afternoons(1, 1, 0), 2);
+        two.last(35);
+        due("nobody in the second by N 35", two.afternoons(1, 2, 2), 2);
+        two.last(36);
+        due("both in the second by N 36", two.afternoons(1, 2, 0), 2);
+        part(32, MORE, "how often somebody was hurt, all together; the most heights together in one; in how many nobody was");
         for (String text : BUSY) {
             for (int many : new int[] {0, 1, 2, 39, 40}) {
                 int[] want = afternoonsByActs(text, 77, many);
@@ -808,7 +828,7 @@ public final class TrampolineMatAskEdges extends Mats {
     }
 
     private static void safePlaces() {
-        part(MORE, "those from -20 to 20, no farther from 0 than EDGE, from which one who jumps alone, without slipping, never comes down beyond EDGE");
+        part(33, MORE, "those from -20 to 20, no farther from 0 than EDGE, from which one who jumps alone, without slipping, never comes down beyond EDGE");
         for (int edge : new int[] {3, 4, 9, 19, 20}) {
             TrampolineMat x = of("mat 3 " + edge + " 80;slips 9 0 9;");
             for (int n : new int[] {0, 1, 100}) due("all within EDGE " + edge, x.safe(0, 0, n), bits(-edge, edge));
@@ -848,6 +868,10 @@ public final class TrampolineMatAskEdges extends Mats {
     }
 
     private static void safeRefused() {
+        part(33, MORE, "SAFE PLACES for a height (0 to 60), CORRECTS (0 to 9) and n jumps (0 to 100)");
+        for (int h : new int[] {0, 60}) for (int c : new int[] {0, 9}) for (int n : new int[] {0, 100}) {
+            due("safe(" + h + ", " + c + ", " + n + ")", of("mat 3 20 80;").safe(h, c, n), safeByHand(h, c, n));
+        }
         promise(33, "IllegalArgumentException: the height, CORRECTS, n.");
         int[][] bad = {{-1, 0, 0}, {61, 0, 0}, {0, -1, 0}, {0, 10, 0}, {0, 0, -1}, {0, 0, 101}};
         for (int[] b : bad) leavesNotRight("safe(" + Arrays.toString(b) + ")", x -> x.safe(b[0], b[1], b[2]));
@@ -863,7 +887,7 @@ public final class TrampolineMatAskEdges extends Mats {
     }
 
     private static void atOnceEdges() {
-        part(MORE, "AT ONCE: the most JUMPERS by whom, no others being there, nobody is hurt in the RUN; of as many the least as bits.");
+        part(34, MORE, "AT ONCE: the most JUMPERS by whom, no others being there, nobody is hurt in the RUN; of as many the least as bits.");
         due("nobody", of("").atOnce(), 0);
         due("one", of("jumper 10 0 0 0 0;").atOnce(), 1);
         due("one who is hurt alone", of("mat 1 9 100;jumper 10 0 9 0 60;").atOnce(), 0);

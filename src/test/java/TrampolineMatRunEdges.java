@@ -47,7 +47,7 @@ public final class TrampolineMatRunEdges extends Mats {
     }
 
     private static void ticks() {
-        part(RUN, "A RUN of N TICKS 0, 1 .. (1 to 600; 200 at first).");
+        part(11, RUN, "A RUN of N TICKS 0, 1 .. (1 to 600; 200 at first).");
         TrampolineMat x = of("jumper 10 1 0 0 0;");
         // Up to 1 in 6, 14, .. 198: he comes down again in 200.
         due("film(0, 199)", x.film(0, 199), 1);
@@ -75,7 +75,7 @@ public final class TrampolineMatRunEdges extends Mats {
     }
 
     private static void starts() {
-        part(RUN, "At first nobody is on THE MAT; each JUMPER comes down to it in TICK START, from DROP, at his PLACE.");
+        part(15, RUN, "At first nobody is on THE MAT; each JUMPER comes down to it in TICK START, from DROP, at his PLACE.");
         for (int start : new int[] {0, 1, 98, 99}) {
             TrampolineMat x = of("jumper 7 0 -9 " + start + " 60;", start + 1);
             int[] want = {start, 0, ALONE, -9, 420};
@@ -95,7 +95,7 @@ public final class TrampolineMatRunEdges extends Mats {
     }
 
     private static void orders() {
-        part(RUN, "LANDINGS of all who come down in it, in the order of JUMPERS.");
+        part(15, RUN, "LANDINGS of all who come down in it, in the order of JUMPERS.");
         TrampolineMat x = of("jumper 1 0 -9 2 1;jumper 2 0 -3 2 2;jumper 3 0 3 2 3;jumper 4 0 9 2 4;", 3);
         for (int i = 0; i < 4; i++) {
             due("landing(" + i + ", 1)", x.landing(i, 1), i);
@@ -113,7 +113,7 @@ public final class TrampolineMatRunEdges extends Mats {
     }
 
     private static void theEdge() {
-        part(RUN, "Beyond EDGE (farther from 0 than it): EDGED: he is OUT from now on, and hurt.");
+        part(12, RUN, "Beyond EDGE (farther from 0 than it): EDGED: he is OUT from now on, and hurt.");
         for (int side : new int[] {-1, 1}) {
             // From 8 up to 5 it is one farther, up to 10 it is two.
             TrampolineMat on = once(8 * side, 5, "");
@@ -138,7 +138,7 @@ public final class TrampolineMatRunEdges extends Mats {
     }
 
     private static void outOnes() {
-        part(RUN, "he is OUT from now on");
+        part(11, RUN, "he is OUT from now on");
         TrampolineMat x = of("mat 1 9 100;jumper 10 30 9 0 10;", 600);
         // Down in 2 and 2 and 20: beyond EDGE, and never again.
         due("landings", x.landing(NONE, 0), 2);
@@ -162,7 +162,7 @@ public final class TrampolineMatRunEdges extends Mats {
     }
 
     private static void near() {
-        part(RUN, "Else, if another one who is on THE MAT is no farther than NEAR: KNOCKED: he, and each such one, is hurt.");
+        part(12, RUN, "Else, if another one who is on THE MAT is no farther than NEAR: KNOCKED: he, and each such one, is hurt.");
         for (int near : new int[] {0, 1, 2, 8, 9}) {
             for (int from : new int[] {-5, 0, 4}) {
                 for (int apart : new int[] {near, near + 1}) {
@@ -193,7 +193,7 @@ public final class TrampolineMatRunEdges extends Mats {
     }
 
     private static void nearWhom() {
-        part(RUN, "another one who is on THE MAT");
+        part(12, RUN, "another one who is on THE MAT");
         // Who hasn't come yet, and who is in the air (from 2 to 6, by up to 5): none of them is on THE MAT.
         String first = "mat 1 9 100;near 9;jumper 10 0 0 0 5;jumper 10 0 0 ";
         int[] startsHurt = {0, 1, 2};
@@ -217,7 +217,25 @@ public final class TrampolineMatRunEdges extends Mats {
     }
 
     private static void sinking() {
-        part(RUN, "If it sinks (fewer than SINKS TICKS since then), his POWER is STORED, too, and he is THE TAKER: GAINING; who was it is LOSING. "
+        part(12, RUN, "If THE MAT is still, it begins to sink with this TICK, his POWER is STORED, he is THE TAKER: ALONE.");
+        for (int start : new int[] {0, 7, 99}) {
+            TrampolineMat still = of("mat 2 9 100;jumper 99 0 0 " + start + " 60;", start + 1);
+            kindsDue(still, 0, 1, 0, 0, 0, 0, 0);
+            due("STORED", still.mat(4), 5940);
+            due("it has not risen", still.mat(3), 0);
+            still.last(start + 4);
+            due("nor 3 TICKS behind", still.mat(3), 0);
+            still.last(start + 5);
+            due("4 TICKS behind he takes it", still.ran(0, 1), 60);
+        }
+        part(12, RUN, "In each TICK, in this order");
+        // In 6 one comes (jarred), THE RISE ends, and another who lay there goes up by LEGS; the one who came stays.
+        TrampolineMat order = of("mat 3 9 100;jumper 10 5 -9 0 10;jumper 10 0 0 0 10;jumper 10 5 9 6 10;", 7);
+        due("who came", order.ran(2, 0), 0);
+        due("is jarred", order.ran(2, 4), 100);
+        due("THE TAKER", order.ran(1, 1), 20);
+        due("the other one", order.ran(0, 1), 5);
+        part(12, RUN, "If it sinks (fewer than SINKS TICKS since then), his POWER is STORED, too, and he is THE TAKER: GAINING; who was it is LOSING. "
             + "Else it rises: JARRING: he is jarred by his POWER, which is gone.");
         for (int sinks = 1; sinks <= 9; sinks++) {
             int[] behind = {0, sinks - 1, sinks, 2 * sinks - 1, 2 * sinks, 2 * sinks + 1};
@@ -237,12 +255,21 @@ public final class TrampolineMatRunEdges extends Mats {
                 due(call + "STORED at the end", x.mat(4), kinds[i] == GAINING ? 31 : kinds[i] == ALONE ? 21 : i == 4 ? 0 : 10);
             }
         }
+        // All that was jarred away, by two, and by one twice (in 1 and in 7, by LEGS from 3 on, while it rises).
+        TrampolineMat both = of("mat 1 9 100;jumper 10 0 0 0 1;jumper 7 0 5 1 10;jumper 3 0 -5 2 5;", 3);
+        due("jarred away by two", both.mat(1), 85);
+        due("the second", both.ran(1, 4), 70);
+        due("the third", both.ran(2, 4), 15);
+        TrampolineMat twice = of("mat 1 9 100;jumper 10 0 0 0 2;jumper 7 4 5 1 10;", 8);
+        due("jarred by one twice", twice.ran(1, 4), 98);
+        due("jarred away", twice.mat(1), 98);
+        due("JARRING twice", twice.lands(1, JARRING), 2);
         // To be jarred is not to be hurt.
         due("hurt", of("jumper 10 0 -9 0 1;jumper 7 0 9 3 3;", 4).ran(1, 3), 0);
     }
 
     private static void takers() {
-        part(RUN, "who was it is LOSING");
+        part(12, RUN, "who was it is LOSING");
         TrampolineMat x = of("jumper 1 0 -9 0 1;jumper 1 0 -3 1 2;jumper 1 0 3 2 3;jumper 1 0 9 3 4;", 7);
         kindsDue(x, 0, 1, 0, 1, 0, 0, 0);
         kindsDue(x, 1, 0, 1, 1, 0, 0, 0);
@@ -255,7 +282,7 @@ public final class TrampolineMatRunEdges extends Mats {
     }
 
     private static void rises() {
-        part(RUN, "THE RISE ends twice SINKS TICKS behind the one in which it began");
+        part(14, RUN, "THE RISE ends twice SINKS TICKS behind the one in which it began");
         for (int sinks = 1; sinks <= 9; sinks++) {
             TrampolineMat x = of("mat " + sinks + " 9 100;jumper 10 0 0 5 4;", 5 + 2 * sinks);
             due("by SINKS " + sinks + " not yet", x.mat(3), 0);
@@ -266,7 +293,7 @@ public final class TrampolineMatRunEdges extends Mats {
             due("STORED is gone", x.mat(4), 0);
             due("he went", x.ran(0, 6), 1);
         }
-        part(RUN, "THE MAT is still, from this TICK on");
+        part(14, RUN, "THE MAT is still, from this TICK on");
         // By who gains the end is not put off.
         TrampolineMat x = of("jumper 10 0 -5 0 10;jumper 10 0 5 2 10;", 7);
         due("it ends in 6", x.mat(3), 1);
@@ -274,7 +301,7 @@ public final class TrampolineMatRunEdges extends Mats {
     }
 
     private static void heights() {
-        part(RUN, "THE TAKER would go up to what is STORED by KEPT, by 100, cut down, by his WEIGHT, cut down, and LEGS more (999 at most)");
+        part(11, RUN, "THE TAKER would go up to what is STORED by KEPT, by 100, cut down, by his WEIGHT, cut down, and LEGS more (999 at most)");
         // WEIGHT and DROP of the first, who is LOSING; WEIGHT, LEGS and DROP of the second; KEPT; the height.
         int[][] rows = {{1, 0, 1, 0, 0, 100, 0}, {1, 0, 1, 30, 0, 100, 30}, {99, 10, 1, 0, 9, 100, 999}, {99, 10, 1, 0, 8, 100, 998}, {99, 10, 1, 0, 10, 100, 999},
             {99, 10, 1, 1, 8, 100, 999}, {99, 10, 1, 2, 8, 100, 999}, {99, 10, 1, 30, 8, 100, 999}, {99, 9, 1, 30, 50, 100, 971}, {99, 60, 1, 30, 60, 100, 999},
@@ -301,7 +328,7 @@ public final class TrampolineMatRunEdges extends Mats {
     }
 
     private static void rulesOfRises() {
-        part(RUN, "he goes, if the RULE in force holds. What is STORED is gone either way");
+        part(11, RUN, "he goes, if the RULE in force holds. What is STORED is gone either way");
         TrampolineMat x = of("mat 2 9 100;jumper 10 0 0 1 4;jumper 10 0 5 6 3;rule 0;rule 1;", 6);
         x.obey(0);
         due("he stays", x.ran(0, 6), 2);
@@ -316,7 +343,7 @@ public final class TrampolineMatRunEdges extends Mats {
         x.last(6);
         due("he goes", x.ran(0, 6), 1);
         due("had of it", x.mat(2), 40);
-        part(RUN, "RULE in force: one of RULES, or none (it holds always); none at first.");
+        part(11, RUN, "RULE in force: one of RULES, or none (it holds always); none at first.");
         TrampolineMat none = of("jumper 10 5 0 0 0;rule 0;", 7);
         due("none at first", none.ran(0, 0), 1);
         none.obey(0);
@@ -334,7 +361,7 @@ public final class TrampolineMatRunEdges extends Mats {
     }
 
     private static void others() {
-        part(RUN, "while THE MAT is still, each one on it, in the order of JUMPERS, who has been there for twice SINKS TICKS or more "
+        part(11, RUN, "while THE MAT is still, each one on it, in the order of JUMPERS, who has been there for twice SINKS TICKS or more "
             + "(THE TAKER who didn't go, too; not he who went), and has LEGS above 0, goes up to LEGS, if the RULE holds.");
         // The first is in the air from 6 to 18; the second is jarred in 3 and has been there for 6 TICKS in 9.
         TrampolineMat x = of("mat 3 9 100;jumper 10 0 -5 0 20;jumper 10 5 5 3 1;", 9);
@@ -380,7 +407,7 @@ public final class TrampolineMatRunEdges extends Mats {
     }
 
     private static void othersInOrder() {
-        part(RUN, "each one on it, in the order of JUMPERS");
+        part(11, RUN, "each one on it, in the order of JUMPERS");
         // Three lie there without a TAKER who goes: by the RULE only who finds nobody in the air.
         TrampolineMat x = of("mat 1 9 100;near 0;jumper 10 5 -5 0 0;jumper 10 5 0 0 0;jumper 10 0 5 0 0;rule up=0 and height<6 and height;", 3);
         x.obey(0);
@@ -399,7 +426,7 @@ public final class TrampolineMatRunEdges extends Mats {
     }
 
     private static void flights() {
-        part(RUN, "he comes down in 2 and H by 2, cut down, TICKS");
+        part(11, RUN, "he comes down in 2 and H by 2, cut down, TICKS");
         for (int h = 0; h <= 60; h++) {
             TrampolineMat x = of("mat 1 20 100;jumper 10 0 0 0 " + h + ";", 40);
             due("from 2 up to " + h + " down in", x.landing(1, 0), 4 + h / 2);
@@ -414,7 +441,7 @@ public final class TrampolineMatRunEdges extends Mats {
     }
 
     private static void places() {
-        part(RUN, "at P and P by H by 40 (cut down to 0), and BROKEN more");
+        part(11, RUN, "at P and P by H by 40 (cut down to 0), and BROKEN more");
         for (int place : new int[] {-20, -7, -1, 0, 1, 7, 20}) {
             for (int h : new int[] {0, 1, 2, 5, 6, 19, 20, 39, 40, 41, 59, 60}) {
                 for (int broken = -3; broken <= 3; broken++) {
@@ -433,7 +460,7 @@ public final class TrampolineMatRunEdges extends Mats {
     }
 
     private static void corrected() {
-        part(RUN, "and then CORRECTS nearer to 0 (not beyond it)");
+        part(11, RUN, "and then CORRECTS nearer to 0 (not beyond it)");
         for (int side : new int[] {-1, 1}) {
             for (int corrects = 0; corrects <= 9; corrects++) {
                 // From 4 up to 10 it is 5, and 1 by BROKEN: 6.
@@ -453,7 +480,7 @@ public final class TrampolineMatRunEdges extends Mats {
     }
 
     private static void highInFlight() {
-        part(RUN, "Behind k TICKS of F he is 4 by H by k by (F less k), by F by F, cut down, high.");
+        part(13, RUN, "Behind k TICKS of F he is 4 by H by k by (F less k), by F by F, cut down, high.");
         int[][] flights = {{0, 0, 0, 0}, {1, 0, 1, 0}, {2, 0, 1, 1, 0}, {3, 0, 2, 2, 0}, {4, 0, 3, 4, 3, 0}, {10, 0, 4, 8, 9, 9, 8, 4, 0}, {5, 0, 3, 5, 3, 0}};
         for (int[] f : flights) {
             TrampolineMat x = of("mat 1 20 100;jumper 10 0 0 0 " + f[0] + ";");
@@ -473,7 +500,7 @@ public final class TrampolineMatRunEdges extends Mats {
     }
 
     private static void valuesOfWho() {
-        part("Terms", "VALUES of a JUMPER who would go up: 'me', 'weight', 'height' (to which he would), 'place', 'tick'");
+        part(11, "Terms", "VALUES of a JUMPER who would go up: 'me', 'weight', 'height' (to which he would), 'place', 'tick'");
         String most = "mat 1 20 100;jumper 1 30 -20 5 60;jumper 99 0 20 5 60;";
         // The second is THE TAKER of 60 and 5940, by 99: 60; the first goes by LEGS.
         due("weight 1, LEGS 30, place -20, TICK 7", goes(most, 8, "me=0 and weight=1 and height=30 and place=0-20 and tick=7"), true);
@@ -496,7 +523,7 @@ public final class TrampolineMatRunEdges extends Mats {
     }
 
     private static void valuesOfOthers() {
-        part("Terms", "'up' (how many others are in the air), 'on' (how many others are on THE MAT), 'heavier' (how many of these weigh more than he)");
+        part(11, "Terms", "'up' (how many others are in the air), 'on' (how many others are on THE MAT), 'heavier' (how many of these weigh more than he)");
         // Alone.
         due("alone", goes("jumper 10 0 0 0 0;", 7, "up=0 and on=0 and heavier=0"), true);
         // Who hasn't come yet is neither; nor is who is OUT (the second, from 9 on).
@@ -521,7 +548,7 @@ public final class TrampolineMatRunEdges extends Mats {
     }
 
     private static void ofEach() {
-        part(RUN, "OF EACH: how often he went up, the greatest height, heights together (FUN; a DROP is none of these)");
+        part(11, RUN, "OF EACH: how often he went up, the greatest height, heights together (FUN; a DROP is none of these)");
         TrampolineMat x = of("mat 1 9 50;jumper 10 0 0 0 60;", 2);
         for (int i = 0; i < 3; i++) due("ran(0, " + i + ") by a DROP alone", x.ran(0, i), 0);
         // 30 in 2, down in 19, 15 in 21, down in 30, 7 in 32.
@@ -535,7 +562,7 @@ public final class TrampolineMatRunEdges extends Mats {
         // In 2 and 6, up to 0.
         due("to go up to 0 is to go up", nought.ran(0, 0), 2);
         due("FUN", nought.ran(0, 2), 0);
-        part(RUN, "LOSING and KNOCKED besides the others, also of who lay there");
+        part(11, RUN, "LOSING and KNOCKED besides the others, also of who lay there");
         TrampolineMat y = of("near 9;jumper 10 0 0 0 1;jumper 10 0 5 0 1;", 1);
         kindsDue(y, 0, 1, 0, 1, 0, 0, 1);
         kindsDue(y, 1, 0, 1, 0, 0, 0, 1);
@@ -670,7 +697,7 @@ public final class TrampolineMatRunEdges extends Mats {
     }
 
     private static void stops() {
-        part("==== 4", "WHEN TO STOP: the first TICK of the RUN in which somebody is hurt; who is then (bits); none.");
+        part(35, "==== 4", "WHEN TO STOP: the first TICK of the RUN in which somebody is hurt; who is then (bits); none.");
         TrampolineMat zero = of("jumper 10 0 0 0 0;jumper 10 0 0 0 0;", 1);
         due("in TICK 0", zero.stop(0), 0);
         due("who", zero.stop(1), 3);
@@ -698,7 +725,7 @@ public final class TrampolineMatRunEdges extends Mats {
     }
 
     private static void overs() {
-        part("==== 4", "OVER a height: in how many TICKS of the RUN one is so high or higher by the film; the first of these; none.");
+        part(36, "==== 4", "OVER a height: in how many TICKS of the RUN one is so high or higher by the film; the first of these; none.");
         TrampolineMat x = of("mat 1 9 100;jumper 10 0 9 3 10;", 20);
         // 10 10 10 0 0 0 4 8 9 9 8 4 0 .. 0
         int[][] rows = {{0, 20, 0}, {1, 9, 0}, {4, 9, 0}, {5, 7, 0}, {8, 7, 0}, {9, 5, 0}, {10, 3, 0}, {11, 0, NONE}, {998, 0, NONE}, {999, 0, NONE}};

@@ -26,6 +26,7 @@ public final class TrampolineMatTextEdges extends Mats {
         feed();
         gardenOfTheTape();
         gardenAnew();
+        nothingIsLeft();
         placeOfTheFault();
         end("the edges of texts hold");
     }
@@ -52,30 +53,30 @@ public final class TrampolineMatTextEdges extends Mats {
     }
 
     private static void boundsOfTheMat() {
-        part(TERMS, "SINKS so many TICKS (1 to 9; 3 without)");
+        part(3, TERMS, "SINKS so many TICKS (1 to 9; 3 without)");
         bounds("mat ", 1, 9, " 9 80;", x -> x.count(0));
         due("without", of("").count(0), 3);
-        part(TERMS, "EDGE (3 to 20; 9 without)");
+        part(3, TERMS, "EDGE (3 to 20; 9 without)");
         bounds("mat 3 ", 3, 20, " 80;", x -> x.count(1));
         due("without", of("").count(1), 9);
-        part(TERMS, "so much of 100 is KEPT (10 to 100; 80 without)");
+        part(3, TERMS, "so much of 100 is KEPT (10 to 100; 80 without)");
         bounds("mat 3 9 ", 10, 100, ";", x -> x.count(2));
         due("without", of("").count(2), 80);
-        part(TERMS, "BROKEN (-3 to 3; 0 without)");
+        part(3, TERMS, "BROKEN (-3 to 3; 0 without)");
         signedBounds("broken ", 3, ";", x -> x.count(3));
         due("without", of("").count(3), 0);
-        part(TERMS, "NEAR (0 to 9; 1 without)");
+        part(3, TERMS, "NEAR (0 to 9; 1 without)");
         bounds("near ", 0, 9, ";", x -> x.count(4));
         due("without", of("").count(4), 1);
     }
 
     private static void boundsOfSlips() {
-        part(TERMS, "weights (0 to 9) of one to the left, none, one to the right (0, 1, 0 without)");
+        part(3, TERMS, "weights (0 to 9) of one to the left, none, one to the right (0, 1, 0 without)");
         bounds("slips ", 0, 9, " 1 1;", x -> x.count(5));
         bounds("slips 1 ", 0, 9, " 1;", x -> x.count(6));
         bounds("slips 1 1 ", 0, 9, ";", x -> x.count(7));
         for (int i = 0; i < 3; i++) due("without, " + i, of("").count(5 + i), i == 1 ? 1 : 0);
-        part(TERMS, "the third of SLIPS, if all are 0");
+        part(3, TERMS, "the third of SLIPS, if all are 0");
         fault("slips 0 0 0;", 2, 10);
         fault("slips 0 0 0", 2, 10);
         fault("slips 00 000 0000;", 2, 13);
@@ -85,25 +86,25 @@ public final class TrampolineMatTextEdges extends Mats {
     }
 
     private static void boundsOfJumpers() {
-        part(TERMS, "WEIGHT (1 to 99)");
+        part(3, TERMS, "WEIGHT (1 to 99)");
         bounds("jumper ", 1, 99, " 5 0 0 0;", x -> x.jumper(0, 0));
-        part(TERMS, "LEGS (0 to 30)");
+        part(3, TERMS, "LEGS (0 to 30)");
         bounds("jumper 5 ", 0, 30, " 0 0 0;", x -> x.jumper(0, 1));
-        part(TERMS, "a PLACE (-20 to 20, no farther from 0 than EDGE)");
+        part(3, TERMS, "a PLACE (-20 to 20, no farther from 0 than EDGE)");
         signedBounds("mat 3 20 80;jumper 5 5 ", 20, " 0 0;", x -> x.jumper(0, 2));
         signedBounds("mat 3 3 80;jumper 5 5 ", 3, " 0 0;", x -> x.jumper(0, 2));
         signedBounds("jumper 5 5 ", 9, " 0 0;", x -> x.jumper(0, 2));
-        part(TERMS, "a PLACE beyond EDGE as it is by then");
+        part(3, TERMS, "a PLACE beyond EDGE as it is by then");
         // An EDGE told by a text ahead counts for nothing.
         TrampolineMat x = of("mat 3 20 80;jumper 5 5 20 0 0;");
         due("PLACE 10 in the next text", tell(x, "jumper 5 5 10 0 0;"), 2);
         due("fault()", x.fault(), 11);
         due("PLACE 9 in the next text", tell(x, "jumper 5 5 9 0 0;"), 0);
-        part(TERMS, "START (0 to 99)");
+        part(3, TERMS, "START (0 to 99)");
         bounds("jumper 5 5 0 ", 0, 99, " 0;", y -> y.jumper(0, 3));
-        part(TERMS, "DROP (0 to 60)");
+        part(3, TERMS, "DROP (0 to 60)");
         bounds("jumper 5 5 0 0 ", 0, 60, ";", y -> y.jumper(0, 4));
-        part(TERMS, "CORRECTS (0 to 9; 0 without)");
+        part(3, TERMS, "CORRECTS (0 to 9; 0 without)");
         bounds("jumper 5 5 0 0 0 corrects ", 0, 9, ";", y -> y.jumper(0, 5));
         due("without", of(JUMPER).jumper(0, 5), 0);
         due("without, behind one with", of("jumper 5 5 0 0 0 corrects 9;" + JUMPER).jumper(1, 5), 0);
@@ -115,9 +116,9 @@ public final class TrampolineMatTextEdges extends Mats {
     }
 
     private static void howManyMayBeTold() {
-        part(TERMS, "JUMPERS 0, 1 .. (at most 4)");
+        part(3, TERMS, "JUMPERS 0, 1 .. (at most 4)");
         for (int i = 0; i <= 4; i++) due("JUMPERS", of(times(JUMPER, i)).count(8), i);
-        part(TERMS, "the first TOKEN of the 5th JUMPER, the 5th RULE, the 9th PUSH");
+        part(3, TERMS, "the first TOKEN of the 5th JUMPER, the 5th RULE, the 9th PUSH");
         fault(times(JUMPER, 4) + "jumper", 2, 68);
         fault(times(JUMPER, 4) + " \n" + JUMPER, 2, 70);
         fault(times(JUMPER, 4) + "jumpers", 1, 68);
@@ -127,10 +128,10 @@ public final class TrampolineMatTextEdges extends Mats {
         fault("egg 1 2 3 4 5 6 7 8 0;", 2, 20);
         fault("egg 1 2 3 4 5 6 7 8 12345;", 2, 20);
         fault("egg 1 2 3 4 5 6 7 8 a;", 1, 20);
-        part(TERMS, "RULES 0, 1 .. (at most 4)");
+        part(3, TERMS, "RULES 0, 1 .. (at most 4)");
         for (int i = 0; i <= 4; i++) due("RULES", of(times("rule 1;", i)).count(9), i);
         good(times(JUMPER, 4) + times("rule 1;", 4));
-        part(TERMS, "PUSHES (at most 8; 1 to 99)");
+        part(3, TERMS, "PUSHES (at most 8; 1 to 99)");
         for (int i = 0; i <= 8; i++) due("PUSHES", of("egg" + times(" 5", i) + ";").count(12), i);
         due("no egg at all", of("").count(12), 0);
         // A PUSH of 1 beside one of 99, and of 99 twice: both bounds can be told apart by what the opener gains.
@@ -147,7 +148,7 @@ public final class TrampolineMatTextEdges extends Mats {
     }
 
     private static void tokens() {
-        part(TERMS, "words (a .. z, the longest row)");
+        part(3, TERMS, "words (a .. z, the longest row)");
         fault("nearnear 5;", 1, 0);
         fault("nea r 5;", 1, 0);
         fault("matt 3 9 80;", 1, 0);
@@ -158,11 +159,11 @@ public final class TrampolineMatTextEdges extends Mats {
         good("jumper5 5 0 0 0corrects9;");
         fault("rule notme;", 3, 5);
         good("rule not me;rule 1or 1;rule 1 and(1);");
-        part(TERMS, "NUMBERS (1 to 4 digits)");
+        part(3, TERMS, "NUMBERS (1 to 4 digits)");
         for (String five : new String[] {"5", "05", "005", "0005"}) due("near " + five, of("near " + five + ";").count(4), 5);
         due("9999", holds("9999=9*1111"), true);
         due("0000", holds("0000=0"), true);
-        part(TERMS, "a NUMBER of 5 digits or more");
+        part(3, TERMS, "a NUMBER of 5 digits or more");
         fault("near 00005;", 2, 5);
         fault("near 99999;", 2, 5);
         fault("near 4294967301;", 2, 5);
@@ -172,7 +173,7 @@ public final class TrampolineMatTextEdges extends Mats {
         fault("rule 1+4294967297;", 2, 7);
         fault("broken -00001;", 2, 8);
         fault("jumper 00005 5 0 0 0;", 2, 7);
-        part(TERMS, "blanks (32, 10) between them count for nothing");
+        part(3, TERMS, "blanks (32, 10) between them count for nothing");
         good(" \n \n");
         due("blanks round all", of("\n near \n\n 7 \n ; \n").count(4), 7);
         due("no blanks", of("near7;").count(4), 7);
@@ -186,7 +187,7 @@ public final class TrampolineMatTextEdges extends Mats {
     }
 
     private static void everyByte() {
-        part(TERMS, "signs ; ( ) + - * / < =");
+        part(3, TERMS, "signs ; ( ) + - * / < =");
         String join = "+-*/<=";
         for (int b = 0; b < 256; b++) {
             char c = (char) b;
@@ -197,13 +198,13 @@ public final class TrampolineMatTextEdges extends Mats {
             if (letter) fault("rule " + c + ";", 3, 5);
             else if (!digit && !isBlank(b)) fault("rule " + c + ";", 1, c == '(' ? 6 : 5);
         }
-        part(TERMS, "1 a TOKEN that can't stand there, or is none");
+        part(3, TERMS, "1 a TOKEN that can't stand there, or is none");
         for (int b = 0; b < 256; b++) {
             fault("near 5;" + (char) b, isBlank(b) ? 0 : 1, isBlank(b) ? NONE : 7);
             boolean number = b >= 48 && b <= 57;
             fault("near" + (char) b + ";", number ? 0 : 1, number ? NONE : b >= 97 && b <= 122 ? 0 : isBlank(b) ? 5 : 4);
         }
-        part(TERMS, "(the text's length where it ends too soon)");
+        part(3, TERMS, "(the text's length where it ends too soon)");
         String text = "jumper 5 5 -1 0 0 corrects 1;";
         for (int i = 0; i < text.length(); i++) {
             // A word that is cut off is another word: it can't stand there itself.
@@ -227,28 +228,28 @@ public final class TrampolineMatTextEdges extends Mats {
     }
 
     private static void lines() {
-        part(TERMS, "GARDEN: LINE*");
+        part(3, TERMS, "GARDEN: LINE*");
         good("");
         good("near 5;");
         fault(";", 1, 0);
         fault("near 5;;", 1, 7);
-        part(TERMS, "'mat' SINKS EDGE KEPT");
+        part(3, TERMS, "'mat' SINKS EDGE KEPT");
         fault("mat;", 1, 3);
         fault("mat 3;", 1, 5);
         fault("mat 3 9;", 1, 7);
         fault("mat 3 9 80 80;", 1, 11);
         fault("mat 3 9 80", 1, 10);
         fault("mat -3 9 80;", 1, 4);
-        part(TERMS, "'near' NUMBER");
+        part(3, TERMS, "'near' NUMBER");
         fault("near;", 1, 4);
         fault("near 1 1;", 1, 7);
         fault("near near;", 1, 5);
-        part(TERMS, "'slips' NUMBER NUMBER NUMBER");
+        part(3, TERMS, "'slips' NUMBER NUMBER NUMBER");
         fault("slips;", 1, 5);
         fault("slips 1;", 1, 7);
         fault("slips 1 1;", 1, 9);
         fault("slips 1 1 1 1;", 1, 12);
-        part(TERMS, "'jumper' WEIGHT LEGS SIGNED START DROP ['corrects' NUMBER]");
+        part(3, TERMS, "'jumper' WEIGHT LEGS SIGNED START DROP ['corrects' NUMBER]");
         fault("jumper;", 1, 6);
         fault("jumper 5;", 1, 8);
         fault("jumper 5 5;", 1, 10);
@@ -267,14 +268,14 @@ public final class TrampolineMatTextEdges extends Mats {
         fault("jumper 5 -5 0 0 0;", 1, 9);
         fault("jumper 5 5 0 -1 0;", 1, 13);
         fault("jumper 5 5 0 0 -1;", 1, 15);
-        part(TERMS, "'egg' PUSH*");
+        part(3, TERMS, "'egg' PUSH*");
         good("egg;");
         fault("egg -1;", 1, 4);
         fault("egg 1,2;", 1, 5);
     }
 
     private static void signedOnes() {
-        part(TERMS, "SIGNED: ['-'] NUMBER");
+        part(3, TERMS, "SIGNED: ['-'] NUMBER");
         due("-0", of("broken -0;").count(3), 0);
         due("- 3", of("broken -\n3;").count(3), -3);
         fault("broken --1;", 1, 8);
@@ -283,7 +284,7 @@ public final class TrampolineMatTextEdges extends Mats {
         fault("broken ;", 1, 7);
         fault("broken 1-1;", 1, 8);
         fault("broken -me;", 1, 8);
-        part(TERMS, "of a SIGNED at the NUMBER");
+        part(3, TERMS, "of a SIGNED at the NUMBER");
         fault("broken 4;", 2, 7);
         fault("broken -4;", 2, 8);
         fault("broken -   4;", 2, 11);
@@ -291,12 +292,12 @@ public final class TrampolineMatTextEdges extends Mats {
     }
 
     private static void faultsThatMeet() {
-        part(TERMS, "FAULTS, the first along the text");
+        part(3, TERMS, "FAULTS, the first along the text");
         fault("near 10;mat 0 0 0;", 2, 5);
         fault("rule deep;near 10;", 3, 5);
         fault("rule 1;near 1;near 1;rule deep", 5, 14);
         fault("near 1 2 12345;", 1, 7);
-        part(TERMS, "at a TOKEN's first byte, of one TOKEN the least");
+        part(3, TERMS, "at a TOKEN's first byte, of one TOKEN the least");
         // 1 ahead of 2: a NUMBER of 5 digits where none can stand.
         fault("12345", 1, 0);
         fault("near 1 12345;", 1, 7);
@@ -315,13 +316,13 @@ public final class TrampolineMatTextEdges extends Mats {
     }
 
     private static void onlyOnce() {
-        part(TERMS, "4 'mat' once a JUMPER was told");
+        part(3, TERMS, "4 'mat' once a JUMPER was told");
         fault(JUMPER + "mat 3 9 80;", 4, 17);
         fault(JUMPER + "mat", 4, 17);
         fault(JUMPER + "near 1;egg;mat 3 9 80;", 4, 28);
         good("near 1;egg;rule 1;slips 1 1 1;broken 1;mat 3 9 80;" + JUMPER);
         good(JUMPER + "near 1;egg;rule 1;slips 1 1 1;broken 1;" + JUMPER);
-        part(TERMS, "5 a second 'mat', 'broken', 'near', 'slips', 'egg'");
+        part(3, TERMS, "5 a second 'mat', 'broken', 'near', 'slips', 'egg'");
         String[] lines = {"mat 3 9 80;", "broken 0;", "near 1;", "slips 0 1 0;", "egg;"};
         for (String line : lines) {
             good(line);
@@ -335,7 +336,7 @@ public final class TrampolineMatTextEdges extends Mats {
     }
 
     private static void partsOfRules() {
-        part(TERMS, "3 any word where a PART must stand that is no VALUE");
+        part(3, TERMS, "3 any word where a PART must stand that is no VALUE");
         for (String word : new String[] {"deep", "a", "z", "or", "and", "mat", "mee", "m", "heavie", "heaviers", "rule", "corrects", "others"}) {
             fault("rule " + word + ";", 3, 5);
             fault("rule (" + word + ");", 3, 6);
@@ -347,7 +348,7 @@ public final class TrampolineMatTextEdges extends Mats {
         // 'not' begins a NOT, but no PART.
         for (String sign : new String[] {"+", "-", "*", "/", "<", "="}) fault("rule 1" + sign + "not 1;", 3, 7);
         for (String value : VALUES) good("rule " + value + ";rule (" + value + ");rule not " + value + ";rule 1<" + value + "+" + value + ";");
-        part(TERMS, "PART: NUMBER | VALUE | '(' EXPR ')'");
+        part(3, TERMS, "PART: NUMBER | VALUE | '(' EXPR ')'");
         fault("rule ;", 1, 5);
         fault("rule ();", 1, 6);
         fault("rule (1;", 1, 7);
@@ -361,7 +362,7 @@ public final class TrampolineMatTextEdges extends Mats {
             fault("rule 1" + sign + ";", 1, 6 + sign.length());
             if (sign.length() == 1) fault("rule " + sign + "1;", 1, 5);
         }
-        part(TERMS, "SUM [('<' | '=') SUM]");
+        part(3, TERMS, "SUM [('<' | '=') SUM]");
         for (String a : new String[] {"<", "="}) {
             good("rule 1" + a + "2;");
             for (String b : new String[] {"<", "="}) {
@@ -372,7 +373,7 @@ public final class TrampolineMatTextEdges extends Mats {
     }
 
     private static void depthOfRules() {
-        part(TERMS, "of an EXPR within 6 others (a NUMBER, any word, a parenthesis)");
+        part(3, TERMS, "of an EXPR within 6 others (a NUMBER, any word, a parenthesis)");
         for (int i = 0; i <= 5; i++) good("rule " + times("(", i) + "1" + times(")", i) + ";");
         String six = "rule " + times("(", 6);
         fault(six + "1))))));", 2, 11);
@@ -391,7 +392,7 @@ public final class TrampolineMatTextEdges extends Mats {
     }
 
     private static void nots() {
-        part(TERMS, "the seventh 'not' side by side");
+        part(3, TERMS, "the seventh 'not' side by side");
         for (int i = 1; i <= 6; i++) due(i + " of them", holds(times("not ", i) + "1"), i % 2 == 0);
         for (int i = 7; i <= 20; i++) fault("rule " + times("not ", i) + "1;", 2, 29);
         fault("rule " + times("not\n\n", 6) + " not", 2, 36);
@@ -401,7 +402,7 @@ public final class TrampolineMatTextEdges extends Mats {
         good("rule " + six + "1 and " + six + "1 or " + six + "(" + six + "1<2);");
         fault("rule " + six + "1 and " + six + "not 1;", 2, 5 + 24 + 6 + 24);
         fault("rule 1 or (" + six + "not 1);", 2, 11 + 24);
-        part(TERMS, "NOT: 'not' NOT");
+        part(3, TERMS, "NOT: 'not' NOT");
         due("not of the whole test", holds("not 0<0"), true);
         due("not of the whole test", holds("not 1=0"), true);
         due("not binds more than and", holds("not 1 and 0"), false);
@@ -412,7 +413,7 @@ public final class TrampolineMatTextEdges extends Mats {
     private static void sums() {
         // 8192 * 8192 * 32 is 2 to the 31st: the least int.
         String least = "8192*8192*32";
-        part(TERMS, "ints that wrap");
+        part(3, TERMS, "ints that wrap");
         String[] hold = {least + "<0", "0<" + least + "-1", least + "-1+1=" + least, "8192*8192*64=0", least + "*3=" + least, "0-" + least + "=" + least,
             "8192*8192*16+8192*8192*16<0", least + "+" + least + "=0"};
         for (String e : hold) due("rule " + e, holds(e), true);
@@ -424,20 +425,20 @@ public final class TrampolineMatTextEdges extends Mats {
         due("a test is no difference", holds(least + "<1"), true);
         due("a test is no difference", holds("1<" + least), false);
         due("the least by -1", holds(least + "/(0-1)=" + least), true);
-        part(TERMS, "/ cut down to 0");
+        part(3, TERMS, "/ cut down to 0");
         String[] cut = {"7/2=3", "(0-7)/2=0-3", "7/(0-2)=0-3", "(0-7)/(0-2)=3", "1/2=0", "(0-1)/2=0", "9999/9999=1", "9998/9999=0", "0/5=0"};
         for (String e : cut) due("rule " + e, holds(e), true);
-        part(TERMS, "by 0 gives 0");
+        part(3, TERMS, "by 0 gives 0");
         String[] by = {"1/0=0", "0/0=0", "(0-1)/0=0", least + "/0=0", "9999/(me-me)=0", "5/0*3+1=1", "not 1/0"};
         for (String e : by) due("rule " + e, holds(e), true);
         due("rule 1/0", holds("1/0"), false);
-        part(TERMS, "From the left");
+        part(3, TERMS, "From the left");
         String[] left = {"9-4-3=2", "9-4+3=8", "64/8/4=2", "64/8*4=32", "2*9/4=4", "9/4*2=4", "1+2*3-4/2=5", "2*3+4*5=26"};
         for (String e : left) due("rule " + e, holds(e), true);
     }
 
     private static void tests() {
-        part(TERMS, "tests, not, and, or are 1 or 0 (what isn't 0 holds)");
+        part(3, TERMS, "tests, not, and, or are 1 or 0 (what isn't 0 holds)");
         String[] one = {"5=5", "4<5", "not 0", "2 and 3", "0 or 7", "7 or 0", "not not 9", "(0-1) and 2", "5 or 6"};
         String[] nought = {"5=4", "4=5", "5<5", "5<4", "not 1", "not 9", "not (0-1)", "0 and 1", "1 and 0", "0 and 0", "0 or 0"};
         for (String e : one) {
@@ -451,7 +452,36 @@ public final class TrampolineMatTextEdges extends Mats {
         for (String e : new String[] {"1", "9999", "0-1", "8192*8192*32"}) due(e + " holds", holds(e), true);
         due("0 does not", holds("0"), false);
         due("a PART keeps its worth in parentheses", holds("(5)=5"), true);
-        part(TERMS, "EXPR: AND ('or' AND)*");
+        // Behind others that wait for it.
+        String[] behind = {"1 and not 0", "0 or not 0", "5=5 and not 1=2", "1+(not 0)=2", "2*(not 1)=0", "1<1+(not 0)", "7=7 and (0 or not not 3)", "9-(8-(7-(6-(5-4))))=3"};
+        for (String e : behind) due(e, holds(e), true);
+        due("1 and not 1", holds("1 and not 1"), false);
+        due("0 or not 1", holds("0 or not 1"), false);
+        // As deep as may be, with as much waiting at each step: it holds only if each of them does.
+        String deep = "1";
+        for (int i = 0; i <= 5; i++) deep = "0 or 1 and 5=3+2*" + (i == 0 ? deep : "(" + deep + ")");
+        due(deep, holds(deep), true);
+        due("and one off", holds(deep.replace("2*1", "2*2")), false);
+        // As long as may be: 600 bytes in all.
+        TrampolineMat x = new TrampolineMat();
+        for (int i = 0; i < 5; i++) {
+            due("a text of 600 bytes", tell(x, "jumper 1 0 0 0 0;rule 1" + times("+1", 286) + "=287;"), 0);
+            x.obey(0);
+            x.last(7);
+            due("287 ones", x.ran(0, 0), 1);
+            due("a text of 600 bytes", tell(x, "jumper 1 0 0 0 0;rule 1" + times("+1", 286) + "=286;"), 0);
+            x.obey(0);
+            x.last(7);
+            due("not 286", x.ran(0, 0), 0);
+        }
+        part(3, TERMS, "AND: NOT ('and' NOT)*");
+        fault("rule 1 and and 1;", 3, 11);
+        fault("rule 1 and or 1;", 3, 11);
+        good("rule not 1 and not 1 and not not 1;");
+        part(3, TERMS, "SUM: PRODUCT (('+' | '-') PRODUCT)*. PRODUCT: PART (('*' | '/') PART)*.");
+        for (String a : new String[] {"+", "-", "*", "/"}) for (String b : new String[] {"+", "-", "*", "/"}) fault("rule 1" + a + b + "1;", 1, 7);
+        for (String e : new String[] {"1+1<1+1+1", "2*3=7-1", "1+1=1*2", "2-1<1+1", "1+2*3<2*2*2"}) due(e, holds(e), true);
+        part(3, TERMS, "EXPR: AND ('or' AND)*");
         due("and binds more", holds("1 or 1 and 0"), true);
         due("and binds more", holds("0 and 0 or 1"), true);
         due("by parentheses", holds("(1 or 1) and 0"), false);
@@ -462,6 +492,8 @@ public final class TrampolineMatTextEdges extends Mats {
     }
 
     private static void aNewObject() {
+        part(1, "The constants", "`NONE = -1`: There is none.");
+        due("NONE", TrampolineMat.NONE, -1);
         promise(1, "A MAT as without all, no JUMPERS.");
         TrampolineMat x = new TrampolineMat();
         int[] without = {3, 9, 80, 0, 1, 0, 1, 0, 0, 0, NONE, 200, 0, 0, 0, 0, 0, 0, 0};
@@ -506,6 +538,10 @@ public final class TrampolineMatTextEdges extends Mats {
                 due("fault()", x.fault(), 20 + at);
             }
         }
+        part(2, TERMS, "A TEXT of at most 600 bytes tells it.");
+        TrampolineMat whole = new TrampolineMat();
+        due("600 bytes", tell(whole, times(" ", 590) + "near    7;"), 0);
+        due("count(4)", whole.count(4), 7);
         promise(2, "how many it has; NONE, and none come, if it would have more than 600");
         TrampolineMat x = new TrampolineMat();
         for (int i = 1; i <= 30; i++) {
@@ -536,6 +572,20 @@ public final class TrampolineMatTextEdges extends Mats {
             notRight("garden(1) then", () -> x.garden(1));
             due("garden(0) then", x.garden(0), 0);
         }
+        // A TOKEN ends with the text, whatever comes behind it on the tape.
+        String[] cut = {"near 5|5;", "near 0005|5;", "near 5;rule me|e;", "near 5|", "egg 9|9", "rule (1|)", "rule 1 or me| or 1"};
+        for (String c : cut) {
+            TrampolineMat x = new TrampolineMat();
+            int n = c.indexOf('|');
+            feedAll(x, c.replace("|", "").getBytes());
+            due("the first " + n + " bytes of '" + c.replace("|", "") + "'", x.garden(n), 1);
+            due("fault()", x.fault(), n);
+        }
+        TrampolineMat older = new TrampolineMat();
+        due("a longer text", tell(older, "near 5;" + times("near 7;", 30)), 5);
+        due("what it told is nothing to a shorter one", tell(older, "near 6;"), 0);
+        due("what it told is nothing to a shorter one", tell(older, "near"), 1);
+        due("fault()", older.fault(), 4);
         promise(3, "IllegalArgumentException: the tape has not so many, n below 0 (nothing changes).");
         TrampolineMat x = new TrampolineMat();
         due("a FAULT ahead", tell(x, "near 55;"), 2);
@@ -589,6 +639,41 @@ public final class TrampolineMatTextEdges extends Mats {
             due("egg(2)", x.egg(2), next.equals(all) ? 3 : 0);
             if (next.equals(all)) due("START as told", x.jumper(0, 3), 7);
             else noSuch("jumper(0, 0)", () -> x.jumper(0, 0));
+        }
+    }
+
+    private static void nothingIsLeft() {
+        promise(3, "are a GARDEN, all anew");
+        String full = "mat 5 12 90;broken -2;near 3;slips 1 2 3;" + times("jumper 10 5 -12 7 9 corrects 4;", 4) + times("rule 0;", 4) + "egg 5 6 7 8 9 10 11 12;";
+        int[] without = {3, 9, 80, 0, 1, 0, 1, 0, 0, 0};
+        // Behind one text or two of this kind, whole or up to a FAULT at its end, and behind the empty text once or twice.
+        String[][] rows = {{full, ""}, {full, "", ""}, {full, full, ""}, {full, full, "", ""}, {full + "x", ""}, {full, full + "x", ""}, {full + "x", "", ""}};
+        for (String[] texts : rows) {
+            TrampolineMat x = new TrampolineMat();
+            for (String text : texts) {
+                due("garden", tell(x, text), text.endsWith("x") ? 1 : 0);
+                for (int i = 0; i < 3; i++) x.egg(i);
+            }
+            for (int k = 0; k < without.length; k++) due("count(" + k + ")", x.count(k), without[k]);
+            due("count(12)", x.count(12), 0);
+            for (int i = 0; i < 3; i++) due("egg(" + i + ")", x.egg(i), i == 1 ? 1 : 0);
+            // Nor is anything left in the way of what comes next.
+            due("garden", tell(x, "jumper 1 2 3 4 5;rule 1;egg 3;"), 0);
+            int[] jumper = {1, 2, 3, 4, 5, 0};
+            for (int k = 0; k < 6; k++) due("jumper(0, " + k + ")", x.jumper(0, k), jumper[k]);
+            due("JUMPERS", x.count(8), 1);
+            due("RULES", x.count(9), 1);
+            due("PUSHES", x.count(12), 1);
+            due("egg(2) of one PUSH", x.egg(2), 0);
+            due("egg(0) of one PUSH", x.egg(0), 0);
+            x.obey(0);
+            due("by the RULE that is told he goes", x.ran(0, 0) > 0, true);
+            due("garden", tell(x, full), 0);
+            due("JUMPERS", x.count(8), 4);
+            due("RULES", x.count(9), 4);
+            due("PUSHES", x.count(12), 8);
+            x.obey(3);
+            due("by the RULE that is told nobody goes", x.ran(3, 0), 0);
         }
     }
 
