@@ -549,6 +549,11 @@ public final class TrampolineMatTextEdges extends Mats {
             due("count(15)", x.count(15), 20 * i);
         }
         for (int i = 0; i < 3; i++) due("feed 31", x.feed(-1, -1, -1, -1, -1), NONE);
+        for (int way = 0; way < Looks.WAYS; way++) {
+            TrampolineMat y = fullToTheEnd();
+            due("feed beyond 600", y.feed(-1, -1, -1, -1, -1), NONE);
+            due("what is seen behind it", Looks.at(y, way, NONE), Looks.at(fullToTheEnd(), way, NONE));
+        }
         due("count(15)", x.count(15), 600);
         // The last of the 600 are ' eg;': what was told stands at its place.
         due("garden(600)", x.garden(600), 1);
@@ -558,6 +563,12 @@ public final class TrampolineMatTextEdges extends Mats {
         due("count(4)", x.count(4), 5);
         for (int i = 1; i <= 30; i++) due("feed " + i + " anew", x.feed(0, 0, 0, 0, 0), 20 * i);
         due("feed 31 anew", x.feed(0, 0, 0, 0, 0), NONE);
+    }
+
+    private static TrampolineMat fullToTheEnd() {
+        TrampolineMat x = full();
+        for (int i = 1; i < 30; i++) due("feed", x.feed(0x20202020, 0x20202020, 0x20202020, 0x20202020, 0x20202020), 20 + 20 * i);
+        return x;
     }
 
     private static void gardenOfTheTape() {
@@ -598,6 +609,8 @@ public final class TrampolineMatTextEdges extends Mats {
         due("fault()", x.fault(), 5);
         due("garden(20)", x.garden(20), 0);
         due("count(4)", x.count(4), 5);
+        for (int n : new int[] {-1, -2, 21, 22, 601}) leavesNotRight("garden(" + n + ")", y -> y.garden(n));
+        for (int n : FAR) leavesNotRight("garden(" + n + ")", y -> y.garden(n));
         TrampolineMat full = new TrampolineMat();
         for (int i = 0; i < 30; i++) full.feed(0x20202020, 0x20202020, 0x20202020, 0x20202020, 0x20202020);
         notRight("garden(601) of a full tape", () -> full.garden(601));
